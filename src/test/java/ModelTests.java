@@ -11,6 +11,11 @@ public final class ModelTests {
     private static final int[] WEIGHTS = {
         12, 24, 12, 24, 1, 8, 2, 4, 10, 1, 8, 8, 2, 1, 3, 8, 4, 3, 4, 10, 8, 2, 4, 4, 4, 3, 4, 2, 12};
 
+    private static final int APPEND = 8;
+    private static final int CLEAR_BUFFER = 9;
+    private static final int FIRST_ERROR = 10;
+    private static final int LOAD = 11;
+
     private static long seed;
     private static int wrong = 0;
 
@@ -48,7 +53,7 @@ public final class ModelTests {
 
     private static String text() {
         StringBuilder text = new StringBuilder();
-        int pieces = 1 + below(4);
+        int pieces = 1 + below(below(2) == 0 ? 4 : 2);
         for (int i = 0; i < pieces; i++) {
             int width = 1 + below(60);
             text.append(i > 0 ? ";" : "").append(width).append('[');
@@ -87,18 +92,22 @@ public final class ModelTests {
     private static void compareRun(int run) {
         ScrollPieces real = new ScrollPieces();
         Model model = new Model();
-        int textLeft = 0;
         String text = "";
+        int textDone = 0;
         for (int i = 0; i < CALLS; i++) {
-            int call = textLeft > 0 ? 8 : pick();
+            int call = pick();
             int[] a = arguments(call, model);
-            if (call == 8 && textLeft == 0 && below(2) == 0) {
+            if (textDone < text.length()) {
+                call = APPEND;
+                a[0] = text.charAt(textDone);
+                textDone++;
+            } else if (textDone == text.length() && below(3) > 0) {
+                call = below(2) == 0 ? FIRST_ERROR : LOAD;
+                textDone += call == LOAD ? 1 : 0;
+            } else if (call == APPEND && below(2) == 0) {
                 text = text();
-                textLeft = text.length();
-                call = 9;
-            } else if (textLeft > 0) {
-                a[0] = text.charAt(text.length() - textLeft);
-                textLeft--;
+                textDone = 0;
+                call = CLEAR_BUFFER;
             }
             String due = answer(null, model, call, a);
             String got = answer(real, null, call, a);

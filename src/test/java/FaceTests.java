@@ -1,0 +1,161 @@
+import java.lang.reflect.Constructor;
+import java.lang.reflect.Field;
+import java.lang.reflect.Method;
+import java.lang.reflect.Modifier;
+import java.nio.file.Files;
+import java.nio.file.Path;
+import java.util.Arrays;
+import java.util.Set;
+import java.util.TreeSet;
+import java.util.regex.Matcher;
+import java.util.regex.Pattern;
+
+/** The face of the class is the document's, and the file keeps to what LANGUAGE.md leaves of Java. */
+public final class FaceTests {
+    private static final Path MAIN = Path.of("src/main/java/ScrollPieces.java");
+    private static final String[] FACE = {
+        "int add(int) IllegalArgument IllegalState",
+        "int tear(int,int,int,int) IndexOutOfBounds IllegalArgument",
+        "int fibre(int,int,int) IndexOutOfBounds IllegalArgument",
+        "int hole(int,int) IndexOutOfBounds IllegalArgument IllegalState",
+        "int remove(int) IndexOutOfBounds",
+        "int move(int,int) IndexOutOfBounds IllegalArgument",
+        "int order()",
+        "int set(int,int) IndexOutOfBounds IllegalArgument",
+        "int append(int) IllegalArgument IllegalState",
+        "int clearBuffer()",
+        "int firstError()",
+        "int load() IllegalArgument IllegalState",
+        "int keep(int) IllegalArgument",
+        "int goBack(int) IllegalArgument IllegalState",
+        "int undo() IllegalState",
+        "int pieceOf(int,int) IndexOutOfBounds IllegalArgument",
+        "int isHole(int,int) IndexOutOfBounds IllegalArgument",
+        "int at(int) IllegalArgument",
+        "int cost(int,int) IndexOutOfBounds IllegalArgument",
+        "int holeOf(int,int) IllegalArgument",
+        "int count(int) IllegalArgument",
+        "int setting(int) IndexOutOfBounds",
+        "int bestBehind(int) IndexOutOfBounds",
+        "int sureness(int) IndexOutOfBounds",
+        "int bestPlace(int) IndexOutOfBounds",
+        "int ifOrdered()",
+        "float meanShrink()",
+        "double meanCost()",
+        "long digest()"};
+    /** Words that rules 3 to 13 leave out, as far as a word tells. */
+    private static final String[] NOT_ALLOWED = {
+        "->", "::", "\\bimport\\b(?! java\\.util\\.(ArrayList|List|Arrays|Iterator|NoSuchElementException);)",
+        "\\bpackage\\b", "\\bfinally\\b", "\\bsynchronized\\b", "\\bassert\\b", "\\bcatch\\b", "\\btry\\b",
+        "\\bSystem\\.(?!arraycopy\\b)", "\\bFloat\\b", "\\bDouble\\b", "\\bCharacter\\b", "Exact\\b", "\\bvar\\b",
+        "\\bnative\\b", "\\bvolatile\\b", "\\btransient\\b", "\\bThread\\b", "\\bStringBuffer\\b", "\\bfinalize\\b",
+        "\\bstatic\\s*\\{", "\\bprotected\\b", "\\bextends (?!\\w+ \\{)", "@", "\\bnew Object\\b"};
+
+    public static void main(String[] args) throws Exception {
+        methods();
+        otherMembers();
+        classesInside();
+        String text = Files.readString(MAIN);
+        words(text.replaceAll("(?s)/\\*.*?\\*/", "").replaceAll("//[^\n]*", ""));
+        signs(text);
+        lengths(text);
+        Check.end("FaceTests");
+    }
+
+    private static void methods() {
+        Set<String> due = new TreeSet<>(Arrays.asList(FACE));
+        Set<String> got = new TreeSet<>();
+        Set<String> hidden = new TreeSet<>();
+        Set<String> open = new TreeSet<>();
+        for (Method method : ScrollPieces.class.getDeclaredMethods()) {
+            if (Modifier.isPrivate(method.getModifiers())) {
+                hidden.add(method.getName());
+                continue;
+            }
+            open.add(method.getName());
+            StringBuilder line = new StringBuilder(method.getReturnType().getSimpleName());
+            line.append(' ').append(method.getName()).append('(');
+            for (Class<?> type : method.getParameterTypes()) {
+                line.append(line.charAt(line.length() - 1) == '(' ? "" : ",").append(type.getSimpleName());
+            }
+            line.append(')');
+            for (Class<?> type : method.getExceptionTypes()) {
+                line.append(' ').append(type.getSimpleName().replace("Exception", ""));
+            }
+            got.add(line.toString());
+            Check.same("public, not static: " + line, method.getModifiers(), Modifier.PUBLIC);
+        }
+        Check.same("the methods", got.toString(), due.toString());
+        hidden.retainAll(open);
+        Check.same("private methods with the name of a public one", hidden.toString(), "[]");
+    }
+
+    private static void otherMembers() {
+        Check.same("public final class", ScrollPieces.class.getModifiers(), Modifier.PUBLIC | Modifier.FINAL);
+        for (Constructor<?> made : ScrollPieces.class.getDeclaredConstructors()) {
+            Check.same("constructor " + made, made.toString(), "public ScrollPieces()");
+        }
+        for (Field field : ScrollPieces.class.getDeclaredFields()) {
+            if (!Modifier.isPrivate(field.getModifiers())) {
+                Check.same("field", field.toString(), "public static final int ScrollPieces.NONE");
+            }
+            if (Modifier.isStatic(field.getModifiers())) {
+                Check.same("final: " + field, Modifier.isFinal(field.getModifiers()) ? 1 : 0, 1);
+            }
+        }
+    }
+
+    private static void classesInside() {
+        Class<?>[] inside = ScrollPieces.class.getDeclaredClasses();
+        Check.same("twelve classes at most", inside.length < 12 ? 1 : 0, 1);
+        for (Class<?> one : inside) {
+            int modifiers = one.getModifiers();
+            boolean fine = Modifier.isStatic(modifiers) && !Modifier.isPublic(modifiers);
+            Check.same("static and not public: " + one, fine ? 1 : 0, 1);
+            int fields = 0;
+            for (Field field : one.getDeclaredFields()) {
+                fields += Modifier.isStatic(field.getModifiers()) ? 0 : 1;
+            }
+            Check.same("twenty fields at most: " + one, fields <= 20 ? 1 : 0, 1);
+        }
+    }
+
+    private static void words(String code) {
+        for (String word : NOT_ALLOWED) {
+            Matcher m = Pattern.compile(word).matcher(code);
+            Check.same("found " + word, m.find() ? m.group() : "none", "none");
+        }
+        Matcher m = Pattern.compile("\\b(Math|Integer|Long|Arrays)\\.(\\w+)").matcher(code);
+        Set<String> allowed = Set.of("abs", "min", "max", "MAX_VALUE", "MIN_VALUE", "bitCount", "compare",
+                "floorDiv", "floorMod", "copyOf", "copyOfRange", "fill");
+        while (m.find()) {
+            Check.same("of the library: " + m.group(), allowed.contains(m.group(2)) ? 1 : 0, 1);
+        }
+    }
+
+    private static void signs(String text) {
+        int strange = 0;
+        for (char c : text.toCharArray()) {
+            strange += c == '\n' || c >= 32 && c <= 126 ? 0 : 1;
+        }
+        Check.same("strange characters", strange, 0);
+    }
+
+    /** Every method in the file begins and ends at the indent of its class's members. */
+    private static void lengths(String text) {
+        String[] lines = text.split("\n");
+        for (int indent : new int[] {4, 8}) {
+            String end = " ".repeat(indent) + "}";
+            Pattern begin = Pattern.compile(" {" + indent + "}[a-z].*\\(.*");
+            int from = -1;
+            for (int i = 0; i < lines.length; i++) {
+                if (begin.matcher(lines[i]).matches() && !lines[i].endsWith(";")) {
+                    from = i;
+                } else if (lines[i].equals(end) && from >= 0) {
+                    Check.same("sixty lines at most: " + lines[from].trim(), i - from <= 60 ? 1 : 0, 1);
+                    from = -1;
+                }
+            }
+        }
+    }
+}
