@@ -6,6 +6,7 @@ public final class DigestTests {
         promise30NewObject();
         promise30Scrolls();
         promise30Quotients();
+        promise30SmallQuotients();
         Check.end("DigestTests");
     }
 
@@ -68,6 +69,32 @@ public final class DigestTests {
             x.hole(1, 8);
             x.hole(2, (last + 5) % 60);
             checkDigest(x, "");
+        }
+    }
+
+    private static void promise30SmallQuotients() {
+        for (int pieces = 2; pieces <= 7; pieces++) {
+            ScrollPieces x = new ScrollPieces();
+            for (int piece = 0; piece < pieces; piece++) {
+                x.add(60);
+                Check.edge(x, piece, 1, "55550");
+            }
+            // The row costs 0, and then 1 more with each height that is torn.
+            for (int rank = 0; rank < 4; rank++) {
+                checkDigest(x, "");
+                x.tear(0, 1, rank, 4);
+            }
+        }
+        for (int distances = 2; distances <= 27; distances++) {
+            for (int off = -1; off <= 1; off++) {
+                ScrollPieces x = Check.withWidths(60, 60, 60, 60, 60, 60, 60);
+                for (int rank = 0; rank <= distances; rank++) {
+                    int stand = 15 * rank + 5 + (rank == distances ? off : 0);
+                    x.hole(stand / 60, stand % 60);
+                }
+                Check.sameFloat("28: a small mean", x.meanShrink(), (float) -off / (distances - 1) + 0.0f);
+                checkDigest(x, "");
+            }
         }
     }
 

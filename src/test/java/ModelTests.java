@@ -1,3 +1,10 @@
+import java.lang.reflect.InvocationTargetException;
+import java.lang.reflect.Method;
+import java.lang.reflect.Modifier;
+import java.util.Arrays;
+import java.util.HashMap;
+import java.util.Map;
+
 /** Long runs of calls, the same each time, on a new object and on the model side by side. */
 public final class ModelTests {
     private static final int RUNS = 400;
@@ -16,10 +23,13 @@ public final class ModelTests {
     private static final int FIRST_ERROR = 10;
     private static final int LOAD = 11;
 
+    private static final Map<String, Method> REAL = methodsOf(ScrollPieces.class);
+    private static final Map<String, Method> MODEL = methodsOf(Model.class);
+
     private static long seed;
     private static int wrong = 0;
 
-    public static void main(String[] args) {
+    public static void main(String[] args) throws ReflectiveOperationException {
         for (int run = 0; run < RUNS; run++) {
             seed = 7919L * run + 17;
             compareRun(run);
@@ -89,7 +99,7 @@ public final class ModelTests {
         return call;
     }
 
-    private static void compareRun(int run) {
+    private static void compareRun(int run) throws ReflectiveOperationException {
         ScrollPieces real = new ScrollPieces();
         Model model = new Model();
         String text = "";
@@ -109,12 +119,12 @@ public final class ModelTests {
                 textDone = 0;
                 call = CLEAR_BUFFER;
             }
-            String due = answer(null, model, call, a);
-            String got = answer(real, null, call, a);
+            String due = answer(model, CALL_NAMES[call], a);
+            String got = answer(real, CALL_NAMES[call], a);
             if (!due.equals(got)) {
                 wrong++;
                 System.out.println("run " + run + ", call " + i + ": " + CALL_NAMES[call]
-                        + java.util.Arrays.toString(a) + " answered " + got + ", the model " + due);
+                        + Arrays.toString(a) + " answered " + got + ", the model " + due);
                 return;
             }
         }
@@ -147,78 +157,31 @@ public final class ModelTests {
         return a;
     }
 
-    private static String answer(ScrollPieces x, Model m, int call, int[] a) {
+    /** The same call by its name, on the object or on the model; an exception answers with its class. */
+    private static String answer(Object target, String name, int[] a) throws ReflectiveOperationException {
+        Method method = target instanceof Model ? MODEL.get(name) : REAL.get(name);
+        Object[] arguments = new Object[method.getParameterCount()];
+        for (int i = 0; i < arguments.length; i++) {
+            arguments[i] = a[i];
+        }
         try {
-            switch (CALL_NAMES[call]) {
-                case "meanShrink": return "" + Float.floatToRawIntBits(x != null ? x.meanShrink() : m.meanShrink());
-                case "meanCost": return "" + Double.doubleToRawLongBits(x != null ? x.meanCost() : m.meanCost());
-                case "digest": return "" + (x != null ? x.digest() : m.digest());
-                default: return "" + (x != null ? ask(x, call, a) : ask(m, call, a));
+            Object answer = method.invoke(target, arguments);
+            if (answer instanceof Float) {
+                return "float " + Float.floatToRawIntBits((Float) answer);
             }
-        } catch (RuntimeException e) {
-            return e.getClass().getName();
+            return answer instanceof Double ? "double " + Double.doubleToRawLongBits((Double) answer) : "" + answer;
+        } catch (InvocationTargetException e) {
+            return e.getCause().getClass().getName();
         }
     }
 
-    private static int ask(ScrollPieces x, int call, int[] a) {
-        switch (CALL_NAMES[call]) {
-            case "add": return x.add(a[0]);
-            case "tear": return x.tear(a[0], a[1], a[2], a[3]);
-            case "fibre": return x.fibre(a[0], a[1], a[2]);
-            case "hole": return x.hole(a[0], a[1]);
-            case "remove": return x.remove(a[0]);
-            case "move": return x.move(a[0], a[1]);
-            case "order": return x.order();
-            case "set": return x.set(a[0], a[1]);
-            case "append": return x.append(a[0]);
-            case "clearBuffer": return x.clearBuffer();
-            case "firstError": return x.firstError();
-            case "load": return x.load();
-            case "keep": return x.keep(a[0]);
-            case "goBack": return x.goBack(a[0]);
-            case "undo": return x.undo();
-            case "pieceOf": return x.pieceOf(a[0], a[1]);
-            case "isHole": return x.isHole(a[0], a[1]);
-            case "at": return x.at(a[0]);
-            case "cost": return x.cost(a[0], a[1]);
-            case "holeOf": return x.holeOf(a[0], a[1]);
-            case "count": return x.count(a[0]);
-            case "setting": return x.setting(a[0]);
-            case "bestBehind": return x.bestBehind(a[0]);
-            case "sureness": return x.sureness(a[0]);
-            case "bestPlace": return x.bestPlace(a[0]);
-            default: return x.ifOrdered();
+    private static Map<String, Method> methodsOf(Class<?> type) {
+        Map<String, Method> methods = new HashMap<>();
+        for (Method method : type.getDeclaredMethods()) {
+            if (!Modifier.isPrivate(method.getModifiers())) {
+                methods.put(method.getName(), method);
+            }
         }
-    }
-
-    private static int ask(Model x, int call, int[] a) {
-        switch (CALL_NAMES[call]) {
-            case "add": return x.add(a[0]);
-            case "tear": return x.tear(a[0], a[1], a[2], a[3]);
-            case "fibre": return x.fibre(a[0], a[1], a[2]);
-            case "hole": return x.hole(a[0], a[1]);
-            case "remove": return x.remove(a[0]);
-            case "move": return x.move(a[0], a[1]);
-            case "order": return x.order();
-            case "set": return x.set(a[0], a[1]);
-            case "append": return x.append(a[0]);
-            case "clearBuffer": return x.clearBuffer();
-            case "firstError": return x.firstError();
-            case "load": return x.load();
-            case "keep": return x.keep(a[0]);
-            case "goBack": return x.goBack(a[0]);
-            case "undo": return x.undo();
-            case "pieceOf": return x.pieceOf(a[0], a[1]);
-            case "isHole": return x.isHole(a[0], a[1]);
-            case "at": return x.at(a[0]);
-            case "cost": return x.cost(a[0], a[1]);
-            case "holeOf": return x.holeOf(a[0], a[1]);
-            case "count": return x.count(a[0]);
-            case "setting": return x.setting(a[0]);
-            case "bestBehind": return x.bestBehind(a[0]);
-            case "sureness": return x.sureness(a[0]);
-            case "bestPlace": return x.bestPlace(a[0]);
-            default: return x.ifOrdered();
-        }
+        return methods;
     }
 }
