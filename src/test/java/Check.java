@@ -112,7 +112,7 @@ final class Check {
         return row.toString();
     }
 
-    /** A piece in the form of a text. */
+    /** A piece in the form of a text; told by few calls, as an object is good for 512 only. */
     static String piece(ScrollPieces x, int piece) {
         StringBuilder text = new StringBuilder();
         text.append(x.pieceOf(piece, 0)).append('[');
@@ -120,8 +120,13 @@ final class Check {
             text.append(what == 6 ? "|" : "").append(x.pieceOf(piece, what));
         }
         text.append(']');
-        for (int place = 0; place < x.pieceOf(piece, 0); place++) {
-            text.append(x.isHole(piece, place) == 1 ? "." + place : "");
+        int rank = 0;
+        for (int ahead = 0; ahead < x.pieceOf(piece, 12); ahead++) {
+            rank += x.pieceOf(x.at(ahead), 11);
+        }
+        for (int left = x.pieceOf(piece, 11); left > 0; left--) {
+            text.append('.').append(x.holeOf(rank, 0) - x.pieceOf(piece, 13));
+            rank++;
         }
         return text.toString();
     }

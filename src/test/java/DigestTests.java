@@ -47,11 +47,23 @@ public final class DigestTests {
         x.move(0, 2);
         x.set(0, 0);
         checkDigest(x, "");
-        for (int i = 0; i < 4; i++) {
+        for (int more = 1; more <= 4; more++) {
+            checkDigest(longerScroll(more), "");
+        }
+    }
+
+    /** Made anew for each digest, as an object is good for 512 calls only. */
+    private static ScrollPieces longerScroll(int more) {
+        ScrollPieces x = Check.withText(TEXT);
+        x.load();
+        x.order();
+        x.move(0, 2);
+        x.set(0, 0);
+        for (int i = 0; i < more; i++) {
             x.add(11 + i);
             x.hole(3 + i, 5);
-            checkDigest(x, "");
         }
+        return x;
     }
 
     /** Means of many sizes, also below 0 and below 1. */
@@ -74,15 +86,8 @@ public final class DigestTests {
 
     private static void promise30SmallQuotients() {
         for (int pieces = 2; pieces <= 7; pieces++) {
-            ScrollPieces x = new ScrollPieces();
-            for (int piece = 0; piece < pieces; piece++) {
-                x.add(60);
-                Check.edge(x, piece, 1, "55550");
-            }
-            // The row costs 0, and then 1 more with each height that is torn.
-            for (int rank = 0; rank < 4; rank++) {
-                checkDigest(x, "");
-                x.tear(0, 1, rank, 4);
+            for (int torn = 0; torn < 4; torn++) {
+                checkDigest(rowThatCosts(torn, pieces), "");
             }
         }
         for (int distances = 2; distances <= 27; distances++) {
@@ -96,6 +101,19 @@ public final class DigestTests {
                 checkDigest(x, "");
             }
         }
+    }
+
+    /** The row costs 1 for each height that is torn. */
+    private static ScrollPieces rowThatCosts(int torn, int pieces) {
+        ScrollPieces x = new ScrollPieces();
+        for (int piece = 0; piece < pieces; piece++) {
+            x.add(60);
+            Check.edge(x, piece, 1, "55550");
+        }
+        for (int rank = 0; rank < torn; rank++) {
+            x.tear(0, 1, rank, 4);
+        }
+        return x;
     }
 
     /** The hash once more, by way of the other calls. */
