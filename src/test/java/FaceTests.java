@@ -58,6 +58,7 @@ public final class FaceTests {
         String text = Files.readString(MAIN);
         words(text.replaceAll("(?s)/\\*.*?\\*/", "").replaceAll("//[^\n]*", ""));
         signs(text);
+        sections(text);
         lengths(text);
         Check.end("FaceTests");
     }
@@ -139,6 +140,20 @@ public final class FaceTests {
             strange += c == '\n' || c >= 32 && c <= 126 ? 0 : 1;
         }
         Check.same("strange characters", strange, 0);
+    }
+
+    /** Ahead of which calls the interface says what. */
+    private static void sections(String text) {
+        String[] due = {
+            "// ---- pieces", "int add(", "int remove(", "// ---- the row", "int move(", "int set(",
+            "// ---- texts, snapshots", "int append(", "int undo(", "// ---- looks; nothing is changed", "int pieceOf(",
+            "int setting(", "// ---- what would be; nothing is changed", "int bestBehind(", "long digest("};
+        int last = -1;
+        for (String part : due) {
+            int at = text.indexOf(part);
+            Check.same("the order of the face, " + part, at > last ? 1 : 0, 1);
+            last = at;
+        }
     }
 
     /** Every method in the file begins and ends at the indent of its class's members. */

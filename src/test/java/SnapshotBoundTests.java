@@ -32,6 +32,7 @@ public final class SnapshotBoundTests {
         promise14();
         promise15();
         promise16();
+        fullScrollsComeBack();
         fiveHundredAndTwelveCalls();
         Check.end("SnapshotBoundTests");
     }
@@ -151,6 +152,22 @@ public final class SnapshotBoundTests {
         new Script("Restores: a full scroll", "write 4[00000|00000].0.1.2.3;4[12345|12345].0.1.2.3", "load", "remove 0",
                 "remove 0", "undo = 2", "undo = 1", "piece 0 = 4[00000|00000].0.1.2.3", "piece 1 = 4[12345|12345].0.1.2.3",
                 "row = 01");
+    }
+
+    /** Seven pieces with four holes each come back by undo(), and by goBack(). */
+    private static void fullScrollsComeBack() {
+        String[] first = {"write 60[12345|54321].0.1.2.3;60[23450|43215].4.5.6.7", "load",
+            "write 60[34501|32154].8.9.10.11;60[45012|21543].12.13.14.15", "load",
+            "write 60[50123|15432].16.17.18.19;60[01239|15439].20.21.22.23", "load",
+            "write 60[44448|33337].56.57.58.59", "load", "move 0 6"};
+        String[] last = {"row = 1234560", "piece 0 = 60[12345|54321].0.1.2.3", "piece 3 = 60[45012|21543].12.13.14.15",
+            "piece 5 = 60[01239|15439].20.21.22.23", "piece 6 = 60[44448|33337].56.57.58.59", "count 5 = 28"};
+        new Script("Restores: as full as can be", first).says("remove 0", "count 5 = 24", "undo").says(last);
+        new Script("Goes back: as full as can be", first).says("keep 1", "remove 0", "remove 0", "hole 0 8", "order",
+                "goBack 1 = 7").says(last);
+        new Script("Goes back: as full as can be, in a scroll that was empty", first).says("keep 0", "remove 0",
+                "remove 0", "remove 0", "remove 0", "remove 0", "remove 0", "remove 0 = 0", "add 1", "undo",
+                "goBack 0 = 7").says(last);
     }
 
     private static void fiveHundredAndTwelveCalls() {

@@ -82,6 +82,15 @@ public final class TellingBoundTests {
         new Script(least, SEVEN).says("fibre 6 0 9", "count 2 = 138", "count 3 = 120", "count 4 = 120", "fibre 3 1 9",
                 "fibre 3 0 9", "count 2 = 174", "count 3 = 120", "count 4 = 120", "fibre 1 0 9", "count 2 = 192",
                 "count 3 = 138", "count 4 = 138").onlyLooks("count 3").onlyLooks("count 4");
+        String[] changes = {"fibre 1 0 9", "remove 2", "add 5", "undo", "move 0 1"};
+        int[] costs = {20 + 20, 20, 40, 20, 20};
+        for (int way = 3; way <= 4; way++) {
+            Script script = new Script(least + ", each told by itself", THREE);
+            for (int i = 0; i < changes.length; i++) {
+                script.says(changes[i], "count " + way + " = " + costs[i]);
+            }
+            script.says("fibre 0 0 9", "count " + way + " = 38", "fibre 0 1 8", "count " + way + " = 22");
+        }
         new Script("count 9: saved states", "count 9 = 0", "add 1", "count 9 = 1", "add 1", "add 1", "add 1", "add 1",
                 "count 9 = 5", "add 1", "count 9 = 6", "add 1", "count 9 = 6", "undo", "count 9 = 5");
     }
@@ -113,6 +122,10 @@ public final class TellingBoundTests {
         new Script("0, if both are alike", SEVEN).says("sureness 3 = 0", "tear 5 0 0 1", "sureness 3 = 1",
                 "sureness 5 = 0", "tear 6 0 0 1", "sureness 3 = 0", "sureness 5 = 1", "tear 6 0 1 5", "sureness 3 = 5")
                 .onlyLooks("sureness 3");
+        new Script("the second least one is that of the first piece", SEVEN).says("tear 0 0 0 3", "tear 6 0 0 5",
+                "sureness 3 = 2", "sureness 6 = 3", "sureness 0 = 5");
+        new Script("the second least one is that of the last piece", SEVEN).says("tear 6 0 0 3", "tear 0 0 0 5",
+                "sureness 3 = 2", "sureness 0 = 3", "sureness 6 = 5");
         new Script("sureness: the greatest", THREE).says("fibre 0 1 9", "fibre 1 0 9", "tear 1 0 0 5", "tear 1 0 1 5",
                 "tear 1 0 2 5", "tear 1 0 3 5", "sureness 0 = 38");
     }
@@ -201,5 +214,13 @@ public final class TellingBoundTests {
                         9, 0, 0, 0, 0, 0, 0, 0, 0, 0, 0, 0, 1, 8, 1, -1, 0,
                         8, 0, 0, 0, 0, 0, 0, 0, 0, 0, 0, 0, 0, 0, 0, -1, 0,
                         1, 0, 0, 0, Double.doubleToLongBits(20.0), 0, 0, 0));
+        // The row stays 10, though the cheapest one is 01: distances 10 and 3 here, and 3 and 8 there.
+        new Script("meanShrink is that of the row, behind ifOrdered", "add 9", "add 8", "hole 0 2", "hole 0 5", "move 1 0",
+                "hole 1 0", "meanShrink = 7.0", "ifOrdered = 1",
+                "digest = " + hash(2, 17, 20, 20, 20, 3, 1, 0, 1, 6, 1, 0,
+                        9, 0, 0, 0, 0, 0, 0, 0, 0, 0, 0, 2, 1, 8, 1, -1, 0,
+                        8, 0, 0, 0, 0, 0, 0, 0, 0, 0, 0, 1, 0, 0, 0, -1, 0,
+                        1, 0, 0, 1, 10, 0, 0, 10, 0, 3, 1, 0, 13, 0, -1, 0, 0,
+                        1, Float.floatToIntBits(7.0f), Double.doubleToLongBits(20.0), 0, 0, 0));
     }
 }

@@ -160,6 +160,12 @@ public final class TextBoundTests {
         begun(greater, SIXTY + ".6.5");
         errors(greater, SIXTY + ".6.5", ".;");
         whole(greater, SIXTY + ".6.50", 1);
+        for (int tens = 1; tens <= 4; tens++) {
+            errors(greater, SIXTY + "." + tens + "9.", "1234".substring(0, tens));
+            begun(greater, SIXTY + "." + tens + "8." + tens);
+            errors(greater, SIXTY + "." + tens + "8." + tens, "012345678");
+            whole(greater, SIXTY + "." + tens + "8." + tens + "9", 1);
+        }
         errors(greater, "50" + EDGES + ".6.", "056");
         errors(greater, "50" + EDGES + ".49;50" + EDGES + ".48.", "012356789");
         whole(greater + "; a piece begins anew", "9" + EDGES + ".8;9" + EDGES + ".0", 2);
